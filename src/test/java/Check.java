@@ -1,7 +1,13 @@
+import java.util.function.Function;
 import java.util.function.Supplier;
 
 /** Counts and prints the answers that are not as due. */
 final class Check {
+    /** Answers of calls that throw. */
+    static final String INDEX = "throws.IndexOutOfBoundsException";
+    static final String ARGUMENT = "throws.IllegalArgumentException";
+    static final String STATE = "throws.IllegalStateException";
+
     private int wrong = 0;
     private int made = 0;
 
@@ -28,6 +34,17 @@ final class Check {
         String before = Snapshot.of(centre);
         due(what, "throws." + exception, call);
         due("what stands after " + what, before, () -> Snapshot.of(centre));
+    }
+
+    /** A wrong call throws what is due, and then the centre goes on like a twin that was spared the call. */
+    void changesNothing(String what, String want, Supplier<Shortmessage> made, Function<Shortmessage, Object> call) {
+        Shortmessage centre = made.get();
+        due(what, want, () -> call.apply(centre));
+        due("the centre after " + what, Probe.of(made.get()), () -> Probe.of(centre));
+    }
+
+    boolean allAsDue() {
+        return wrong == 0 && made > 0;
     }
 
     void end(String name) {
