@@ -97,8 +97,8 @@ public final class ExceptionSentencesTest {
 
     // ---- Terms: which exception goes first
 
-    @Sentence(at = "Terms", says = "IndexOutOfBoundsException is thrown for a part, message, link, receipt or place that "
-            + "does not exist")
+    @Sentence(at = "Terms", says = "IndexOutOfBoundsException is thrown for a part, message, link, receipt or "
+            + "place that does not exist")
     static void terms_exceptions_indexForWhatDoesNotExist(Check check) {
         Shortmessage x = inFullUse();
         check.due("part", Check.INDEX, () -> x.signs(2));
@@ -154,7 +154,8 @@ public final class ExceptionSentencesTest {
                 Shortmessage::new, x -> x.acknowledge(3, 4));
     }
 
-    @Sentence(at = "Terms", says = "If several apply, IndexOutOfBoundsException goes first, then IllegalArgumentException.")
+    @Sentence(at = "Terms", says = "If several apply, IndexOutOfBoundsException goes first, then "
+            + "IllegalArgumentException.")
     static void terms_exceptions_argumentGoesBeforeState(Check check) {
         check.changesNothing("write: sign 1000, text full", Check.ARGUMENT,
                 () -> Made.text(1, 400), x -> x.write(1000, 1));

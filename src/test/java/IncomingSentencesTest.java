@@ -64,8 +64,8 @@ public final class IncomingSentencesTest {
         }
     }
 
-    @Sentence(at = "Terms", says = "the latest text by which it began or that went by it came less than 20 ticks ago, it "
-            + "goes to the service of the session")
+    @Sentence(at = "Terms", says = "the latest text by which it began or that went by it came less than 20 ticks "
+            + "ago, it goes to the service of the session")
     static void terms_sessions_19TicksButNot20AfterTheBegin(Check check) {
         Shortmessage at0 = withSession();
         check.due("in the same tick", 2, () -> at0.come(0, 1));
@@ -93,14 +93,21 @@ public final class IncomingSentencesTest {
 
     @Sentence(at = "Terms", says = "the latest text by which it began")
     static void terms_sessions_beginAgainByTheSameKeyword(Check check) {
-        Shortmessage x = withSession();
+        Shortmessage x = withKeywords();
+        x.pass(1);
+        x.come(0, 5);
         x.pass(19);
         x.come(0, 5);
         x.pass(19);
         check.due("19 ticks after the second begin", 2, () -> x.come(0, 1));
+        x.pass(19);
         x.come(0, 6);
         x.pass(19);
-        check.due("after the begin of another", 3, () -> x.come(0, 1));
+        check.due("19 ticks after the begin of another", 3, () -> x.come(0, 1));
+        x.pass(20);
+        x.come(0, 6);
+        x.pass(19);
+        check.due("19 ticks after a begin when it was over", 3, () -> x.come(0, 1));
     }
 
     @Sentence(at = "Terms", says = "or that went by it came less than 20 ticks ago")

@@ -109,8 +109,8 @@ public final class LinkSentencesTest {
         check.due("not at 5", 5, () -> x.tokens(0));
     }
 
-    @Sentence(at = "Terms", says = "Then for each link, by its number: if it has fewer than 5 tokens, it gets one more; "
-            + "and as long as it is up, has a token")
+    @Sentence(at = "Terms", says = "Then for each link, by its number: if it has fewer than 5 tokens, it gets one "
+            + "more; and as long as it is up, has a token")
     static void terms_ticks_theTokenComesBeforeTheSending(Check check) {
         Shortmessage x = withQueue(10);
         check.due("5 of 5, and no sixth", 5, () -> x.pass(1));
@@ -218,8 +218,8 @@ public final class LinkSentencesTest {
 
     // ---- Terms: acknowledgement
 
-    @Sentence(at = "Terms", says = "It is told for a link what became of the part that has been under way the longest on "
-            + "it, which is not under way then")
+    @Sentence(at = "Terms", says = "It is told for a link what became of the part that has been under way the "
+            + "longest on it, which is not under way then")
     static void terms_acknowledgement_theLongestUnderWay(Check check) {
         Shortmessage x = Made.messagesFor(1, 4, 7, 2);
         x.pass(1);
@@ -260,7 +260,8 @@ public final class LinkSentencesTest {
         check.due("all have come", "1 0", () -> x.state(0) + " " + x.missing(0));
     }
 
-    @Sentence(at = "Terms", says = "1 busy: it has failed once more. At the fourth failure of a part the message is rejected")
+    @Sentence(at = "Terms", says = "1 busy: it has failed once more. At the fourth failure of a part the message "
+            + "is rejected")
     static void terms_acknowledgement_theFourthFailureRejects(Check check) {
         Shortmessage x = withPartsUnderWay(1);
         for (int failure = 1; failure <= 3; failure++) {
@@ -314,7 +315,8 @@ public final class LinkSentencesTest {
         check.due("behind the others", "10 20 0", () -> Made.acknowledged(x, 0, DELIVERED, 3));
     }
 
-    @Sentence(at = "Terms", says = "2 absent: the part is put at the end of the queue, and waits for an alert of its receiver")
+    @Sentence(at = "Terms", says = "2 absent: the part is put at the end of the queue, and waits for an alert of "
+            + "its receiver")
     static void terms_acknowledgement_absentWaitsForItsReceiver(Check check) {
         Shortmessage x = Made.messagesFor(0);
         x.pass(1);
@@ -340,7 +342,8 @@ public final class LinkSentencesTest {
         check.due("behind the others", "10 20 0", () -> Made.acknowledged(x, 0, DELIVERED, 3));
     }
 
-    @Sentence(at = "Terms", says = "which ends the waiting of all parts of messages for that receiver that are in the queue.")
+    @Sentence(at = "Terms", says = "which ends the waiting of all parts of messages for that receiver that are in "
+            + "the queue.")
     static void terms_acknowledgement_anAlertEndsTheWaitingOfAll(Check check) {
         Shortmessage x = new Shortmessage();
         Made.submitParts(x, 2, 0, 1000);
@@ -355,7 +358,8 @@ public final class LinkSentencesTest {
         check.due("the other one waits on", 1, () -> x.queued(0));
     }
 
-    @Sentence(at = "Terms", says = "which ends the waiting of all parts of messages for that receiver that are in the queue.")
+    @Sentence(at = "Terms", says = "which ends the waiting of all parts of messages for that receiver that are in "
+            + "the queue.")
     static void terms_acknowledgement_anAlertIsNotKeptForThoseUnderWay(Check check) {
         Shortmessage x = Made.messagesFor(0);
         x.pass(1);
@@ -422,8 +426,8 @@ public final class LinkSentencesTest {
 
     // ---- Terms: a link goes down
 
-    @Sentence(at = "Terms", says = "When a link goes down, all its parts under way of messages that wait go back to the "
-            + "front of the queue, in the order in which they were sent")
+    @Sentence(at = "Terms", says = "When a link goes down, all its parts under way of messages that wait go back "
+            + "to the front of the queue, in the order in which they were sent")
     static void terms_down_backToTheFrontInTheOrderOfSending(Check check) {
         Shortmessage x = Made.messagesFor(0, 0, 0, 0);
         x.setWindow(0, 3);

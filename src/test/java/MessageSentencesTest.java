@@ -64,7 +64,8 @@ public final class MessageSentencesTest {
         check.due("no link -1", Check.INDEX, () -> new Shortmessage().queued(-1));
     }
 
-    @Sentence(at = "Terms", says = "The parts of a message are put at the end of the queue of that link, in their order")
+    @Sentence(at = "Terms", says = "The parts of a message are put at the end of the queue of that link, in their "
+            + "order")
     static void terms_messages_partsGoToTheEndInTheirOrder(Check check) {
         Shortmessage x = new Shortmessage();
         Made.submitParts(x, 6, 0, 1000);
@@ -76,7 +77,8 @@ public final class MessageSentencesTest {
         check.due("in their order", "0 1 2 3 4 5 10 11 20", () -> Made.acknowledged(x, 0, 0, 9));
     }
 
-    @Sentence(at = "Terms", says = "The parts of a message are put at the end of the queue of that link, in their order")
+    @Sentence(at = "Terms", says = "The parts of a message are put at the end of the queue of that link, in their "
+            + "order")
     static void terms_messages_partsGoBehindThoseThatWait(Check check) {
         Shortmessage x = Made.messagesFor(0, 3);
         x.pass(1);
@@ -306,13 +308,15 @@ public final class MessageSentencesTest {
         }
     }
 
-    @Sentence(at = "Promise 10", says = "Throws `IllegalStateException` if the text has no signs, or there are 20 messages")
+    @Sentence(at = "Promise 10", says = "Throws `IllegalStateException` if the text has no signs, or there are 20 "
+            + "messages")
     static void promise10_submit_noSigns(Check check) {
         check.changesNothing("new", Check.STATE, Shortmessage::new, x -> x.submit(0, 1));
         check.changesNothing("submitted before", Check.STATE, () -> Made.messagesFor(0), x -> x.submit(0, 1));
     }
 
-    @Sentence(at = "Promise 10", says = "Throws `IllegalStateException` if the text has no signs, or there are 20 messages")
+    @Sentence(at = "Promise 10", says = "Throws `IllegalStateException` if the text has no signs, or there are 20 "
+            + "messages")
     static void promise10_submit_20Messages(Check check) {
         check.changesNothing("the 21st", Check.STATE, () -> {
             Shortmessage x = withMostMessages();

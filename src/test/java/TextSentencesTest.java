@@ -1,3 +1,7 @@
+import java.math.BigInteger;
+import java.util.ArrayList;
+import java.util.List;
+
 /** The text that is written: promises 2 to 9, and what the terms say of signs, parts and octets. */
 public final class TextSentencesTest {
     private TextSentencesTest() {
@@ -79,6 +83,9 @@ public final class TextSentencesTest {
 
     @Sentence(at = "Terms", says = "A small text of at most 160 septets is one part")
     static void terms_smallParts_160SeptetsAreOnePart(Check check) {
+        check.due("153 plain", 1, () -> Made.text(1, 153).parts());
+        check.due("154 plain", 1, () -> Made.text(1, 154).parts());
+        check.due("159 plain", 1, () -> Made.text(1, 159).parts());
         check.due("160 plain", 1, () -> Made.text(1, 160).parts());
         check.due("all of them in it", 160, () -> Made.text(1, 160).signs(0));
         check.due("161 plain", 2, () -> Made.text(1, 161).parts());
@@ -92,7 +99,8 @@ public final class TextSentencesTest {
         check.due("159 plain, one escaped", 2, y::parts);
     }
 
-    @Sentence(at = "Terms", says = "otherwise it is cut into parts, each of which has as many signs as fit into 153 septets")
+    @Sentence(at = "Terms", says = "otherwise it is cut into parts, each of which has as many signs as fit into "
+            + "153 septets")
     static void terms_smallParts_153SeptetsFit(Check check) {
         Shortmessage x = Made.text(1, 161);
         check.due("161: the first", 153, () -> x.signs(0));
@@ -126,6 +134,9 @@ public final class TextSentencesTest {
 
     @Sentence(at = "Terms", says = "A wide text of at most 70 signs is one part")
     static void terms_wideParts_70SignsAreOnePart(Check check) {
+        check.due("67", 1, () -> Made.text(160, 67).parts());
+        check.due("68", 1, () -> Made.text(160, 68).parts());
+        check.due("69", 1, () -> Made.text(160, 69).parts());
         check.due("70", 1, () -> Made.text(160, 70).parts());
         check.due("all of them in it", 70, () -> Made.text(160, 70).signs(0));
         check.due("71", 2, () -> Made.text(160, 71).parts());
@@ -172,7 +183,44 @@ public final class TextSentencesTest {
         check.due("eight septets, seven octets", "1 193 128 80 48 28 16",
                 () -> Made.octets(Made.signs(1, 2, 3, 4, 5, 6, 7, 8), 0));
         check.due("nine septets", "255 255 255 255 255 255 255 127", () -> Made.octets(Made.text(127, 9), 0));
-        check.due("1; 27, 27; 10", "129 205 70 1", () -> Made.octets(Made.signs(1, 155, 10), 0));
+        check.due("1; 27, 31; 10", "129 205 71 1", () -> Made.octets(Made.signs(1, 159, 10), 0));
+        check.due("the ninth septet", "255 255 255 255 255 255 255 1",
+                () -> Made.octets(Made.signs(127, 127, 127, 127, 127, 127, 127, 127, 1), 0));
+    }
+
+    @Sentence(at = "Terms", says = "The octets of a part of a small text are its septets, written one behind the "
+            + "other as bits")
+    static void terms_smallOctets_everyOctetOfLongParts(Check check) {
+        Shortmessage plain = new Shortmessage();
+        List<Integer> septets = new ArrayList<>();
+        for (int i = 0; i < 160; i++) {
+            septets.add(i * 37 % 128);
+            plain.write(i * 37 % 128, 1);
+        }
+        check.due("one full part", packed(septets), () -> Made.octets(plain, 0));
+        Shortmessage mixed = new Shortmessage();
+        List<Integer> first = new ArrayList<>(List.of(5));
+        List<Integer> second = new ArrayList<>();
+        mixed.write(5, 1);
+        for (int i = 0; i < 100; i++) {
+            mixed.write(128 + i * 13 % 32, 1);
+            (i < 76 ? first : second).addAll(List.of(27, i * 13 % 32));
+        }
+        check.due("153 septets", packed(first), () -> Made.octets(mixed, 0));
+        check.due("the rest", packed(second), () -> Made.octets(mixed, 1));
+    }
+
+    /** All septets as one number, the first one lowest, told eight bits at a time. */
+    private static String packed(List<Integer> septets) {
+        BigInteger bits = BigInteger.ZERO;
+        for (int i = 0; i < septets.size(); i++) {
+            bits = bits.or(BigInteger.valueOf(septets.get(i)).shiftLeft(7 * i));
+        }
+        StringBuilder all = new StringBuilder();
+        for (int bit = 0; bit < 7 * septets.size(); bit += 8) {
+            all.append(bit == 0 ? "" : " ").append(bits.shiftRight(bit).intValue() & 255);
+        }
+        return all.toString();
     }
 
     @Sentence(at = "Terms", says = "what is lacking at the end is 0.")
@@ -188,7 +236,8 @@ public final class TextSentencesTest {
         check.due("eight septets in it", 255, () -> x.octet(1, 6));
     }
 
-    @Sentence(at = "Terms", says = "Those of a wide text are two for each sign: sign / 256, rounded down, and the remainder.")
+    @Sentence(at = "Terms", says = "Those of a wide text are two for each sign: sign / 256, rounded down, and the "
+            + "remainder.")
     static void terms_wideOctets_quotientAndRemainderOf256(Check check) {
         check.due("around the multiples of 256", "0 0 0 255 1 0 1 255 2 0 2 255 3 0 3 231",
                 () -> Made.octets(Made.signs(0, 255, 256, 511, 512, 767, 768, 999), 0));
