@@ -9,13 +9,19 @@ import java.util.TreeSet;
 public final class FaceTest {
     private static final Check CHECK = new Check();
 
+    private static final String INDEX = " throws IndexOutOfBoundsException";
+    private static final String ARGUMENT = " throws IllegalArgumentException";
+    private static final String STATE = " throws IllegalStateException";
+
     private static final String[] FACE = {
-        "int write(int, int)", "int erase()", "boolean isWide()", "int septets()", "int parts()",
-        "int signs(int)", "int octets(int)", "int octet(int, int)", "int submit(int, int)", "int state(int)",
-        "int missing(int)", "int joined(int, int)", "int receipts()", "int receipt(int)", "int pass(int)",
-        "int time()", "boolean toggleLink(int)", "int setWindow(int, int)", "int queued(int)",
-        "int underWay(int)", "int tokens(int)", "int acknowledge(int, int)", "int alert(int)",
-        "void setKeyword(int, int)", "int come(int, int)",
+        "int write(int, int)" + ARGUMENT + STATE, "int erase()", "boolean isWide()", "int septets()" + STATE,
+        "int parts()", "int signs(int)" + INDEX, "int octets(int)" + INDEX, "int octet(int, int)" + INDEX,
+        "int submit(int, int)" + ARGUMENT + STATE, "int state(int)" + INDEX, "int missing(int)" + INDEX,
+        "int joined(int, int)" + INDEX, "int receipts()", "int receipt(int)" + INDEX, "int pass(int)" + ARGUMENT,
+        "int time()", "boolean toggleLink(int)" + INDEX, "int setWindow(int, int)" + INDEX + ARGUMENT,
+        "int queued(int)" + INDEX, "int underWay(int)" + INDEX, "int tokens(int)" + INDEX,
+        "int acknowledge(int, int)" + INDEX + ARGUMENT + STATE, "int alert(int)" + ARGUMENT,
+        "void setKeyword(int, int)" + ARGUMENT, "int come(int, int)" + ARGUMENT,
     };
 
     private FaceTest() {
@@ -26,10 +32,11 @@ public final class FaceTest {
         for (Method method : Shortmessage.class.getDeclaredMethods()) {
             if (!Modifier.isPrivate(method.getModifiers())) {
                 methods.add(said(method));
+                CHECK.due(method.getName() + " is public", "public", () -> Modifier.toString(method.getModifiers()));
             }
         }
         CHECK.due("methods", new TreeSet<>(Arrays.asList(FACE)), () -> methods);
-        CHECK.due("final", true, () -> Modifier.isFinal(Shortmessage.class.getModifiers()));
+        CHECK.due("the class", "public final", () -> Modifier.toString(Shortmessage.class.getModifiers()));
         for (Field field : Shortmessage.class.getDeclaredFields()) {
             CHECK.due(field.getName() + " is private", true, () -> Modifier.isPrivate(field.getModifiers()));
         }
@@ -44,6 +51,10 @@ public final class FaceTest {
         for (Class<?> type : method.getParameterTypes()) {
             parameters.append(parameters.length() == 0 ? "" : ", ").append(type.getName());
         }
-        return method.getReturnType().getName() + " " + method.getName() + "(" + parameters + ")";
+        StringBuilder exceptions = new StringBuilder();
+        for (Class<?> exception : method.getExceptionTypes()) {
+            exceptions.append(" throws ").append(exception.getSimpleName());
+        }
+        return method.getReturnType().getName() + " " + method.getName() + "(" + parameters + ")" + exceptions;
     }
 }

@@ -22,6 +22,18 @@ public final class LinkSentencesTest {
         return x;
     }
 
+    /** With 36 parts in the queue of each link, and the widest windows. */
+    private static Shortmessage withFullQueues() {
+        Shortmessage x = new Shortmessage();
+        for (int i = 0; i < 18; i++) {
+            Made.submitParts(x, 6, i % 9, 1000);
+        }
+        for (int link = 0; link < 3; link++) {
+            x.setWindow(link, 10);
+        }
+        return x;
+    }
+
     /** With a message of so many parts for receiver 0, all of them under way. */
     private static Shortmessage withPartsUnderWay(int parts) {
         Shortmessage x = new Shortmessage();
@@ -289,6 +301,24 @@ public final class LinkSentencesTest {
         check.due("the fourth of the second", 2, () -> x.state(0));
     }
 
+    @Sentence(at = "Terms", says = "At the fourth failure of a part the message is rejected")
+    static void terms_acknowledgement_failuresAreKeptBetween(Check check) {
+        Shortmessage x = withPartsUnderWay(1);
+        for (int failure = 1; failure <= 3; failure++) {
+            x.acknowledge(0, BUSY);
+            x.pass(8);
+            x.acknowledge(0, ABSENT);
+            x.alert(0);
+            x.pass(1);
+            x.toggleLink(0);
+            x.toggleLink(0);
+            x.pass(1);
+            check.due("failure " + failure + ", absent, and down", "0 1", () -> x.state(0) + " " + x.underWay(0));
+        }
+        x.acknowledge(0, BUSY);
+        check.due("failure 4", 2, () -> x.state(0));
+    }
+
     @Sentence(at = "Terms", says = "otherwise the part is put at the end of the queue, to be tried 2^(its number of "
             + "failures) ticks later.")
     static void terms_acknowledgement_busyWaits2And4And8Ticks(Check check) {
@@ -512,6 +542,7 @@ public final class LinkSentencesTest {
         check.due("one on each link", 3, () -> Made.messagesFor(0, 1, 2).pass(1));
         check.due("two on two links", 4, () -> Made.messagesFor(0, 3, 6, 2, 5, 8).pass(200));
         check.due("five, and one in each tick", 8, () -> withQueue(10).pass(4));
+        check.due("as many as can be under way", 30, () -> withFullQueues().pass(200));
         Shortmessage x = Made.messagesFor(0);
         x.pass(1);
         check.due("those under way are not counted again", 0, () -> x.pass(1));
